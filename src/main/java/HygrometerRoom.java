@@ -27,6 +27,7 @@ public final class HygrometerRoom {
     private static final int MAX_FORECAST = 200;
     private static final int MAX_DIGITS = 3;
     private static final int BULB_WEIGHT = 5;
+    private static final int HAIR_PACE = 20;
     private static final int BRITTLE_BELOW = 20;
     private static final int MINUTES_PER_SLACK = 10;
     private static final int MINUTES_PER_BRINGING = 60;
@@ -626,7 +627,7 @@ public final class HygrometerRoom {
                 return;
             }
             if (hairs > 0) {
-                moveWetness(surrounding, 1 + quotient(MAX_HAIRS, hairs));
+                moveWetness(surrounding, 1 + quotient(HAIR_PACE, hairs));
             }
             if (minute % MINUTES_PER_SLACK == 0) {
                 slack = Math.min(MAX_SLACK, slack + 1);

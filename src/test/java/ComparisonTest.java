@@ -7,6 +7,8 @@ public final class ComparisonTest {
         slackest();
         disagreements();
         spread();
+        formerInstruments();
+        sixInstruments();
         Check.finish("ComparisonTest");
     }
 
@@ -41,7 +43,37 @@ public final class ComparisonTest {
         Check.same("31 four", room.blend(), 50);
     }
 
+    /** Instruments of a former text count no more, though it had more of them. */
+    private static void formerInstruments() {
+        HygrometerRoom room = Rooms.of("room 9 20 0;hair 2;hair 3;bulb 7;hair 5;minutes 10;box 2 0;bulb 3;bulb 2");
+        Rooms.load(room, "room 50 20 0;bulb 5;bulb 0");
+        Check.same("30 one", room.usableInstruments(), 1);
+        Check.same("31 its reading", room.blend(), 50);
+        Check.same("32 the first", room.bestInstrument(), 0);
+        Check.same("33 none", room.slackestInstrument(), -1);
+        Check.same("34 none", room.disagreements(), 0);
+        Check.same("35 one alone", room.spread(), 0);
+        Check.same("39 of two", room.meanReading(), 75.0);
+        Check.same("40 of two", room.usableShare(), 0.5f);
+        Check.same("55 of two", room.writeReadings(), 6);
+    }
+
+    private static void sixInstruments() {
+        HygrometerRoom room = Rooms.of("room 50 20 0;bulb 9;hair 8;bulb 0;hair 6;bulb 0;bulb 9;box 3 1;box 5 3");
+        Check.same("30 of six", room.usableInstruments(), 2);
+        Check.same("31 of six", room.blend(), 50);
+        Check.same("32 of six", room.bestInstrument(), 0);
+        Check.same("33 of six", room.slackestInstrument(), 1);
+        Check.same("34 of six", room.disagreements(), 1);
+        Check.same("35 of six", room.spread(), 0);
+    }
+
     private static void best() {
+        HygrometerRoom two = Rooms.of("room 20 20 0;hair 4;hair 4");
+        Check.same("32 the first", two.bestInstrument(), 0);
+        Check.same("33 the first", two.slackestInstrument(), 0);
+        Check.same("31 nothing added", Rooms.of("room 0 0 0;hair 1").blend(), 0);
+
         HygrometerRoom room = Rooms.of("room 20 20 0;bulb 0;hair 4;hair 20;bulb 60");
         Check.same("32 a tie", room.bestInstrument(), 1);
         room.setHumidity(90);
@@ -98,6 +130,11 @@ public final class ComparisonTest {
     private static void spread() {
         HygrometerRoom room = Rooms.of("room 20 20 0;bulb 0;hair 20;bulb 60;bulb 60;hair 1");
         Check.same("35 alike", room.spread(), 0);
+        HygrometerRoom zero = Rooms.of("room 0 20 0;hair 1;hair 20");
+        Check.same("35 alike at 0", zero.spread(), 0);
+        zero.setHumidity(100);
+        zero.advance(1);
+        Check.same("35 the first and the last", zero.spread(), 19);
         room.setHumidity(90);
         Check.same("35 hairs and bulbs", room.spread(), 70);
         room.advance(1);

@@ -78,6 +78,9 @@ public final class DescriptionTest {
         bad("  \n", 1, 3);
         bad(" roo", 1, 1);
         bad("rooms 1 2 3", 1, 0);
+        bad("roomz 1 2 3", 1, 0);
+        bad("rooma 1 2 3", 1, 0);
+        bad("zoom 1 2 3", 1, 0);
         bad("hair 1", 1, 0);
         bad("7", 1, 0);
         bad(";", 1, 0);
@@ -105,6 +108,7 @@ public final class DescriptionTest {
         bad(HEAD + "room 0 0 0", 1, 11);
         bad(HEAD + "hairs 1", 1, 11);
         bad(HEAD + "hai 1", 1, 11);
+        bad(HEAD + "xair 1", 1, 11);
         bad(HEAD + "minute 1", 1, 11);
         bad(HEAD + "hair", 1, 15);
         bad(HEAD + "hair;", 1, 15);

@@ -12,6 +12,7 @@ public final class InputTest {
         loadTakesTheFirstBytes();
         loadRefusesLengths();
         loadDiscards();
+        loadBeginsAnew();
         loadWithAnError();
         loadKeepsTheOutput();
         errorOfTheLastCall();
@@ -106,6 +107,29 @@ public final class InputTest {
         Check.refuses("3 discards slot 1", NO_STATE, room, () -> room.restore(1));
         room.setHumidity(9);
         Check.same("3 new changes", room.undo(), 0);
+    }
+
+    /** Nothing of an earlier text is left, be it that of a good one or of one with an error. */
+    private static void loadBeginsAnew() {
+        String rich = "room 10 20 5;hair 3;bulb 9;hair 2;tighten 0;box 0 1;box 1 2;minutes 60";
+        for (String earlier : new String[] {rich, rich + ";hair 0"}) {
+            HygrometerRoom room = new HygrometerRoom();
+            Rooms.append(room, earlier);
+            try {
+                room.load(earlier.length());
+            } catch (IllegalArgumentException e) {
+                Check.same("4 kind", room.errorKind(), 2);
+            }
+            Check.same("3 anew", Rooms.load(room, "room 30 40 1;bulb 5;hair 7;hair 2;minutes 1"), 3);
+            Check.same("3 state anew", Rooms.state(room),
+                    "minute 1 humidity 30 temperature 40 skill 1 stock 0 difference 0; bulb 4 zero 0 box -1"
+                            + "; hair 7 broken 0 wetness 30 slack 0 zero 0 box -1"
+                            + "; hair 2 broken 0 wetness 30 slack 0 zero 0 box -1");
+            Check.same("19 depression anew", room.depressionOf(0), 35);
+            Check.same("3 less instruments", Rooms.load(room, "room 0 0 0;bulb 1"), 1);
+            Check.same("3 state anew again", Rooms.state(room),
+                    "minute 0 humidity 0 temperature 0 skill 0 stock 0 difference 0; bulb 1 zero 0 box -1");
+        }
     }
 
     private static void loadWithAnError() {

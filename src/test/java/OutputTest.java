@@ -35,6 +35,7 @@ public final class OutputTest {
         low.setHumidity(100);
         low.advance(9);
         written(low, 1, "h100*");
+        written(Rooms.of("room 9 0 0;hair 5"), 0, "h9*");
         written(Rooms.of("room 10 0 0;hair 5"), 0, "h10*");
         written(Rooms.of("room 99 0 0;hair 5"), 0, "h99*");
     }
