@@ -118,10 +118,16 @@ public final class ChangeTest {
         Check.same("44 before", room.setSkill(5), 0);
         Check.same("9 set", room.skill(), 5);
         Check.same("42 moves no wetness", room.wetnessOf(0), 50);
-        refuses("42", NO_ARGUMENT, new int[] {-1, 101, FAR[0], FAR[1]}, room, room::setHumidity);
-        refuses("43", NO_ARGUMENT, new int[] {-1, 41, FAR[0], FAR[1]}, room, room::setTemperature);
-        refuses("44", NO_ARGUMENT, new int[] {-1, 6, FAR[0], FAR[1]}, room, room::setSkill);
-        Check.same("42 to 44 record nothing when refused", room.undo(), 6);
+        Check.same("42 to 44 are recorded", room.undo(), 6);
+        HygrometerRoom humid = new HygrometerRoom();
+        refuses("42", NO_ARGUMENT, new int[] {-1, 101, FAR[0], FAR[1]}, humid, humid::setHumidity);
+        Check.fails("42 records nothing when refused", NO_STATE, humid::undo);
+        HygrometerRoom warm = new HygrometerRoom();
+        refuses("43", NO_ARGUMENT, new int[] {-1, 41, FAR[0], FAR[1]}, warm, warm::setTemperature);
+        Check.fails("43 records nothing when refused", NO_STATE, warm::undo);
+        HygrometerRoom skilled = new HygrometerRoom();
+        refuses("44", NO_ARGUMENT, new int[] {-1, 6, FAR[0], FAR[1]}, skilled, skilled::setSkill);
+        Check.fails("44 records nothing when refused", NO_STATE, skilled::undo);
     }
 
     private static void refuses(String what, Class<? extends RuntimeException> due, int[] values,

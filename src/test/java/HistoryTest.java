@@ -27,19 +27,20 @@ public final class HistoryTest {
         changes.add(room -> room.setHumidity(9));
         changes.add(room -> room.setTemperature(9));
         changes.add(room -> room.setSkill(1));
-        changes.add(room -> room.putInBox(2, 3));
-        changes.add(room -> room.takeOut(1));
-        changes.add(room -> room.moisten(2));
-        changes.add(room -> room.calibrate(2));
-        changes.add(room -> room.tighten(1));
-        changes.add(room -> room.addHairs(1, 2));
-        HygrometerRoom room = new HygrometerRoom();
-        room.save(0);
+        changes.add(room -> room.putInBox(1, 3));
+        changes.add(room -> room.takeOut(0));
+        changes.add(room -> room.moisten(1));
+        changes.add(room -> room.calibrate(1));
+        changes.add(room -> room.tighten(0));
+        changes.add(room -> room.addHairs(0, 2));
+        HygrometerRoom room = Rooms.of("room 50 20 2;hair 4;bulb 30;box 0 2;minutes 5");
         List<String> states = new ArrayList<>();
+        states.add(Rooms.state(room));
         for (Consumer<HygrometerRoom> change : changes) {
-            states.add(Rooms.state(room));
             change.accept(room);
-            Check.same("52 the change shows", Rooms.state(room).equals(states.get(states.size() - 1)), false);
+            String before = states.get(states.size() - 1);
+            states.add(Rooms.state(room));
+            Check.same("52 the change shows", states.get(states.size() - 1).equals(before), false);
         }
         for (int left = 9; left >= 0; left--) {
             Check.same("52 left", room.undo(), left);

@@ -123,7 +123,7 @@ public final class ModelTest {
             case "restore", "save" -> random.nextInt(12) == 0 ? 2 : random.nextInt(2);
             case "readingAfter" -> first ? random.nextInt(5) : random.nextInt(202);
             case "addHairs" -> first ? random.nextInt(5) : 1 + random.nextInt(random.nextBoolean() ? 4 : 21);
-            default -> random.nextInt(first && !name.equals("fixedPoint") ? Math.max(1, room.instrumentCount()) + 1 : 5);
+            default -> random.nextInt(first && !name.equals("fixedPoint") ? Math.max(1, model.instrumentCount()) + 1 : 5);
         };
     }
 

@@ -1,5 +1,6 @@
 import java.nio.charset.StandardCharsets;
 import java.util.Arrays;
+import java.util.function.IntSupplier;
 
 /** Makes rooms out of texts and tells all that the face shows of them. */
 final class Rooms {
@@ -59,6 +60,61 @@ final class Rooms {
         all.append("error ").append(room.errorKind()).append(" at ").append(room.errorOffset());
         all.append(", output ").append(output(room)).append(", ").append(state(room));
         return all.toString();
+    }
+
+    /** Lets any number of minutes pass and returns the number of hairs that were brought. */
+    static int pass(HygrometerRoom room, int minutes) {
+        int brought = 0;
+        for (int left = minutes; left > 0; left -= Math.min(99, left)) {
+            brought += room.advance(Math.min(99, left));
+        }
+        return brought;
+    }
+
+    /** A hair hygrometer and a wet bulb, and something in every part that a room has beside them. */
+    static HygrometerRoom busy() {
+        HygrometerRoom room = of("room 50 20 5;hair 10;minutes 60;bulb 30;box 1 2");
+        append(room, "room 1 2 6");
+        answer(() -> room.load(10));
+        room.save(0);
+        for (int humidity = 40; humidity <= 51; humidity++) {
+            room.setHumidity(humidity);
+        }
+        room.advance(3);
+        room.save(1);
+        room.writeReadings();
+        append(room, "room 7 8 3;bulb 9;minutes 5");
+        return room;
+    }
+
+    /** All that a room holds, found by calls that use it up. */
+    static String whole(HygrometerRoom room) {
+        StringBuilder all = new StringBuilder(picture(room));
+        String left = "";
+        for (int undone = 0; undone < 11 && !left.endsWith("Exception"); undone++) {
+            left = answer(room::undo);
+            all.append("\nundo ").append(left).append(", ").append(state(room));
+        }
+        for (int slot = 0; slot < 2; slot++) {
+            int number = slot;
+            all.append("\nrestore ").append(answer(() -> room.restore(number))).append(", ").append(state(room));
+        }
+        return all.append(input(room)).toString();
+    }
+
+    private static String input(HygrometerRoom room) {
+        String length = answer(() -> room.append(0, 0, 0, 0, 0));
+        int before = length.matches("\\d+") ? Integer.parseInt(length) - 20 : 600;
+        return "\ninput " + before + ", load " + answer(() -> room.load(before)) + ", " + picture(room);
+    }
+
+    /** What a call answers, be it a number or an exception. */
+    static String answer(IntSupplier call) {
+        try {
+            return String.valueOf(call.getAsInt());
+        } catch (RuntimeException e) {
+            return e.getClass().getSimpleName();
+        }
     }
 
     /** What undo() and restore() bring back. */
